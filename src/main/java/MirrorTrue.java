@@ -359,6 +359,9 @@ public final class MirrorTrue {
         private final int[] shifts = new int[TESTS];
         private final int[] steps = new int[MOST_STEPS];
         private final int[] profiles = new int[MOST_ZONES];
+        private final int[] firstSecond = new int[2 * MOST_SHIFT + 1];
+        private final int[] firstThird = new int[2 * MOST_SHIFT + 1];
+        private final int[] secondThird = new int[4 * MOST_SHIFT + 1];
         private int lie = 2;
         private int zones;
         private int dropped;
@@ -432,56 +435,73 @@ public final class MirrorTrue {
             if (settled) {
                 return;
             }
+            settleAgreements();
             settleShifts();
             settleSteps();
             settleProfiles();
             settled = true;
         }
 
+        // Two tests agree at a step if one number serves both; which steps, is told by bits.
+        private void settleAgreements() {
+            for (int shift = -MOST_SHIFT; shift <= MOST_SHIFT; shift++) {
+                firstSecond[shift + MOST_SHIFT] = stepsOfAgreement(0, 1, shift);
+                firstThird[shift + MOST_SHIFT] = stepsOfAgreement(0, 2, shift);
+            }
+            for (int shift = -2 * MOST_SHIFT; shift <= 2 * MOST_SHIFT; shift++) {
+                secondThird[shift + 2 * MOST_SHIFT] = stepsOfAgreement(1, 2, shift);
+            }
+        }
+
+        private int stepsOfAgreement(int test, int other, int shift) {
+            int bits = 0;
+            for (int i = 0; i < zones - 1; i++) {
+                int one = readings[test][i];
+                int two = readings[other][i];
+                if (one != GAP && two != GAP && Math.abs(two - shift - one) <= 2 * lie) {
+                    bits |= 1 << i;
+                }
+            }
+            return bits;
+        }
+
         // Lesser shifts come first, so of equal ones the first to be found stands.
         private void settleShifts() {
-            dropped = TESTS * MOST_STEPS + 1;
+            int kept = -1;
             int size = 0;
             for (int one = -MOST_SHIFT; one <= MOST_SHIFT; one++) {
                 for (int two = -MOST_SHIFT; two <= MOST_SHIFT; two++) {
                     int sizeNow = Math.abs(one) + Math.abs(two);
-                    int droppedNow = droppedBy(one, two);
-                    if (droppedNow < dropped || droppedNow == dropped && sizeNow < size) {
-                        dropped = droppedNow;
+                    int keptNow = keptMore(one, two);
+                    if (keptNow > kept || keptNow == kept && sizeNow < size) {
+                        kept = keptNow;
                         size = sizeNow;
                         shifts[1] = one;
                         shifts[2] = two;
                     }
                 }
             }
+            dropped = howManyTold() - stepsTold() - kept;
         }
 
-        // How many readings these shifts drop; the count stops once it is past the fewest so far.
-        private int droppedBy(int one, int two) {
-            int sum = 0;
-            for (int i = 0; i < zones - 1 && sum <= dropped; i++) {
-                int first = readings[0][i];
-                int second = readings[1][i] == GAP ? GAP : readings[1][i] - one;
-                int third = readings[2][i] == GAP ? GAP : readings[2][i] - two;
-                sum += droppedOf(first, second, third);
+        // Each step that is told keeps one reading; here are those that it keeps besides: one where
+        // any two tests agree, and another where all do (one number serves three readings just
+        // when it serves each two of them).
+        private int keptMore(int one, int two) {
+            int first = firstSecond[one + MOST_SHIFT];
+            int second = firstThird[two + MOST_SHIFT];
+            int third = secondThird[two - one + 2 * MOST_SHIFT];
+            return Integer.bitCount(first | second | third) + Integer.bitCount(first & second & third);
+        }
+
+        private int stepsTold() {
+            int told = 0;
+            for (int i = 0; i < zones - 1; i++) {
+                if (readings[0][i] != GAP || readings[1][i] != GAP || readings[2][i] != GAP) {
+                    told++;
+                }
             }
-            return sum;
-        }
-
-        // One number serves three readings just when it serves each two of them.
-        private int droppedOf(int first, int second, int third) {
-            int told = (first == GAP ? 0 : 1) + (second == GAP ? 0 : 1) + (third == GAP ? 0 : 1);
-            if (told < 2) {
-                return 0;
-            }
-            int pairs = (agree(first, second) ? 1 : 0) + (agree(first, third) ? 1 : 0)
-                    + (agree(second, third) ? 1 : 0);
-            int kept = pairs == 3 ? 3 : pairs > 0 ? 2 : 1;
-            return told - kept;
-        }
-
-        private boolean agree(int one, int other) {
-            return one != GAP && other != GAP && Math.abs(one - other) <= 2 * lie;
+            return told;
         }
 
         private void settleSteps() {
@@ -747,8 +767,10 @@ public final class MirrorTrue {
         private final int[][] minutes = new int[TOOLS][MOST_ZONES];
         private final int[] planCosts = new int[TOOLS];
         private final int[] settledAt = new int[TOOLS];
+        // What the plan that is being worked out hangs on, but for the heights.
+        private final int[] pulls = new int[PULLED];
+        private int rest;
         private int zones;
-        private int tool;
 
         Planner(Bench bench) {
             this.bench = bench;
@@ -797,31 +819,37 @@ public final class MirrorTrue {
         }
 
         // Many calls ask of one and the same plan, so it is worked out once and kept.
-        private void settle(int wanted) {
-            zones = bench.howManyZones();
-            if (settledAt[wanted] == bench.howManyChanges()) {
+        private void settle(int tool) {
+            if (settledAt[tool] == bench.howManyChanges()) {
                 return;
             }
-            tool = wanted;
-            Arrays.fill(costs, UNKNOWN);
-            planCosts[wanted] = leastCost(0, 0);
-            if (planCosts[wanted] < MISS) {
-                traceMinutes();
+            begin(tool);
+            planCosts[tool] = costFrom(0, 0);
+            if (planCosts[tool] < MISS) {
+                traceMinutes(minutes[tool]);
             }
-            settledAt[wanted] = bench.howManyChanges();
+            settledAt[tool] = bench.howManyChanges();
         }
 
-        private void traceMinutes() {
+        private void begin(int tool) {
+            zones = bench.howManyZones();
+            rest = bench.restOf();
+            for (int d = -REACH; d <= REACH; d++) {
+                pulls[d + REACH] = bench.pullOf(tool, d);
+            }
+            Arrays.fill(costs, UNKNOWN);
+        }
+
+        private void traceMinutes(int[] row) {
             int state = 0;
             for (int zone = 0; zone < zones; zone++) {
-                int chosen = firstOfLeastCost(zone, state);
-                minutes[tool][zone] = chosen;
-                state = stateBehind(state, chosen);
+                row[zone] = firstOfLeastCost(zone, state);
+                state = stateBehind(state, row[zone]);
             }
         }
 
         private int firstOfLeastCost(int place, int state) {
-            int least = leastCost(place, state);
+            int least = costFrom(place, state);
             int left = leftAt(place - REACH, state);
             for (int chosen = 0; chosen < MOST_PLANNED; chosen++) {
                 if (costWith(place, state, chosen, left) == least) {
@@ -832,31 +860,34 @@ public final class MirrorTrue {
         }
 
         // From a place on: the zones that do not come right by MISS each, and the minutes.
-        private int leastCost(int place, int state) {
-            if (!within(place, 0, zones + REACH - 1) || !within(state, 0, STATES - 1)) {
+        private int costFrom(int place, int state) {
+            if (place < 0 || place >= zones + REACH || state < 0 || state >= STATES) {
                 return 0;
             }
             int slot = place * STATES + state;
-            if (costs[slot] != UNKNOWN) {
-                return costs[slot];
+            if (costs[slot] == UNKNOWN) {
+                costs[slot] = leastCost(place, state);
             }
+            return costs[slot];
+        }
+
+        // Once as many minutes alone cost what has been found, there is no use to go on.
+        private int leastCost(int place, int state) {
             int most = place < zones ? MOST_PLANNED : 0;
             int left = leftAt(place - REACH, state);
             int least = ABOVE_ALL;
-            // So many minutes alone cost more than what has been found: no use to go on.
             for (int chosen = 0; chosen <= most && chosen < least; chosen++) {
                 least = Math.min(least, costWith(place, state, chosen, left));
             }
-            costs[slot] = least;
             return least;
         }
 
         private int costWith(int place, int state, int chosen, int left) {
-            int closed = place - REACH;
-            if (closed >= 0 && !within(left - chosen * bench.pullOf(tool, -REACH), 0, bench.restOf())) {
-                return (zones - closed) * MISS;
+            int height = left - chosen * pulls[0];
+            if (place >= REACH && (height < 0 || height > rest)) {
+                return (zones - place + REACH) * MISS;
             }
-            return chosen + leastCost(place + 1, stateBehind(state, chosen));
+            return chosen + costFrom(place + 1, stateBehind(state, chosen));
         }
 
         private static int stateBehind(int state, int chosen) {
@@ -870,8 +901,8 @@ public final class MirrorTrue {
             }
             int left = bench.heightOf(zone);
             int digits = state;
-            for (int d = 1 - REACH; d <= REACH; d++) {
-                left -= digits % CHOICES * bench.pullOf(tool, d);
+            for (int pulled = 1; pulled < PULLED; pulled++) {
+                left -= digits % CHOICES * pulls[pulled];
                 digits /= CHOICES;
             }
             return left;

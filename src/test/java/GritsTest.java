@@ -9,6 +9,7 @@ public final class GritsTest {
         wetsOfTwo();
         wetsSkipGrits();
         wetsTies();
+        wetsOfSix();
         check.end();
     }
 
@@ -88,6 +89,15 @@ public final class GritsTest {
         wetsAre(x, "the middle one left out", 56, 11, 5, 0, 6);
         // 3 of grit 0 would leave 5 for grit 2, which must take 6
         wetsAre(x, "never the middle one", 35, 17, 2, 0, 15);
+    }
+
+    private static void wetsOfSix() {
+        MirrorTrue x = new MirrorTrue();
+        for (int takes : new int[] {100, 50, 20, 10, 5, 1}) {
+            x.grit(takes, 1);
+        }
+        // five of the last leave 1995: 1900, 50, 40 and 5
+        wetsAre(x, "all but one", 2000, 28, 19, 1, 2, 0, 1, 5);
     }
 
     private static void wetsTies() {

@@ -3,6 +3,7 @@ public final class RingsTest {
     private static final Check check = new Check("RingsTest");
 
     public static void main(String[] args) {
+        newRings();
         bend();
         bearPlain();
         bearThreeAtMost();
@@ -15,6 +16,13 @@ public final class RingsTest {
         for (int ring = 0; ring < 6; ring++) {
             check.due(what + ": ring " + ring, x.bear(ring), shares[ring]);
         }
+    }
+
+    private static void newRings() {
+        MirrorTrue x = new MirrorTrue();
+        check.due("ring 0 bears all", x.bear(0), 12);
+        check.due("ring 5 bears nothing", x.bear(5), 0);
+        check.due("nothing bends", x.bear(-1), 0);
     }
 
     private static void bend() {

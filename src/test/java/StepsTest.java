@@ -7,7 +7,9 @@ public final class StepsTest {
         lie();
         joined();
         joinedTies();
+        joinedAnew();
         step();
+        stepOfShifted();
         profile();
         wire();
         wires();
@@ -70,6 +72,9 @@ public final class StepsTest {
         check.due("dropped", x.joined(0), 0);
         check.due("least shift", x.joined(1), -20);
         check.due("greatest shift", x.joined(2), 20);
+        tell(x, 1, 30, 40, 50);
+        check.due("nor dropped", x.joined(0), 0);
+        check.due("greatest shift of 1", x.joined(1), 20);
         tell(x, 1, -11, -1, 9);
         check.due("21 is too far", x.joined(0), 3);
         check.due("then none", x.joined(1), 0);
@@ -110,6 +115,31 @@ public final class StepsTest {
         check.due("lesser of 2", x.joined(2), -4);
     }
 
+    private static void joinedAnew() {
+        for (int test = 0; test < 3; test++) {
+            MirrorTrue x = new MirrorTrue();
+            tell(x, test, 7, -900, 400);
+            check.due("test " + test + " alone drops none", x.joined(0), 0);
+            check.due("nor is 1 shifted", x.joined(1), 0);
+            check.due("nor is 2 shifted", x.joined(2), 0);
+        }
+        MirrorTrue x = new MirrorTrue();
+        x.disc(16);
+        for (int i = 0; i < 15; i++) {
+            x.read(0, i, i);
+            x.read(1, i, i + 9);
+            x.read(2, i, 1000);
+        }
+        check.due("a reading a step", x.joined(0), 15);
+        check.due("9 apart, brought within 4", x.joined(1), 5);
+        check.due("the last step", x.step(14), 16);
+        x.disc(16);
+        check.due("none dropped now", x.joined(0), 0);
+        check.due("none shifted now", x.joined(1), 0);
+        check.due("a gap now", x.step(14), 5000);
+        check.due("no profile now", x.profile(15), 1000000);
+    }
+
     private static void step() {
         MirrorTrue x = new MirrorTrue();
         x.disc(4);
@@ -141,6 +171,26 @@ public final class StepsTest {
         tell(x, 1, 107, 8, 9);
         tell(x, 2, 5000, 5000, 5000);
         check.due("shift is taken off", x.step(0), 100);
+    }
+
+    private static void stepOfShifted() {
+        MirrorTrue x = new MirrorTrue();
+        x.disc(4);
+        x.lie(0);
+        // test 1 is 7 more at each step; test 2 goes with test 0 but for the first
+        tell(x, 0, 100, 1, 2);
+        tell(x, 1, 107, 8, 9);
+        tell(x, 2, 50, 1, 2);
+        check.due("dropped", x.joined(0), 1);
+        check.due("shift", x.joined(1), 7);
+        check.due("what two tell, not the lesser that one tells", x.step(0), 100);
+        x.lie(2);
+        tell(x, 0, 10, 0, 0);
+        tell(x, 1, 14, 0, 0);
+        tell(x, 2, -500, 0, 0);
+        check.due("just twice the lie apart", x.joined(0), 1);
+        check.due("not shifted", x.joined(1), 0);
+        check.due("amid the two", x.step(0), 12);
     }
 
     private static void profile() {

@@ -6,6 +6,7 @@ public final class StrokesTest {
         pull();
         rest();
         stroke();
+        strokeAtTheRim();
         strokeRefused();
         undo();
         replay();
@@ -13,6 +14,7 @@ public final class StrokesTest {
         planOfSeveral();
         right();
         work();
+        workOfSmallerDisc();
         workRefused();
         check.end();
     }
@@ -76,6 +78,23 @@ public final class StrokesTest {
         check.due("another tool pulls nothing", x.stroke(0, 0, 5), 38);
         check.due("strokes", x.count(3), 4);
         check.due("minutes", x.count(4), 28);
+    }
+
+    private static void strokeAtTheRim() {
+        MirrorTrue x = new MirrorTrue();
+        x.disc(16);
+        pulls(x, 2, 1, 2, 3, 4, 5);
+        check.due("the last zone there can be", x.stroke(2, 15, 3), -9);
+        check.due("one ahead", x.at(14), -6);
+        check.due("two ahead", x.at(13), -3);
+        check.due("the rim", x.at(16), -1000000);
+        for (int d = -2; d <= 2; d++) {
+            MirrorTrue y = discOf(0, 0, 0, 0, 0);
+            y.pull(0, d, 1);
+            y.height(2 + d, -100000);
+            check.due("would sink at " + d, y.stroke(0, 2, 1), -1000002);
+            check.due("nothing done at " + d, y.count(3), 0);
+        }
     }
 
     private static void strokeRefused() {
@@ -234,6 +253,21 @@ public final class StrokesTest {
         check.due("work(-1)", x.work(-1), MirrorTrue.BAD);
         check.due("work(3)", x.work(3), MirrorTrue.BAD);
         check.due("no plan", x.work(1), MirrorTrue.NO);
+    }
+
+    private static void workOfSmallerDisc() {
+        MirrorTrue x = new MirrorTrue();
+        x.disc(6);
+        x.pull(0, 0, 10);
+        for (int zone = 0; zone < 6; zone++) {
+            x.height(zone, 50);
+        }
+        check.due("six zones", x.plan(0, -1), 24);
+        x.disc(4);
+        x.height(3, 50);
+        check.due("four zones", x.plan(0, -1), 4);
+        check.due("one stroke", x.work(0), 1);
+        check.due("done", x.count(3), 1);
     }
 
     private static void workRefused() {
