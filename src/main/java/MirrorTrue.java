@@ -437,7 +437,9 @@ public final class MirrorTrue {
             }
             settleAgreements();
             settleShifts();
-            settleSteps();
+            for (int i = 0; i < zones - 1; i++) {
+                steps[i] = leastStep(i);
+            }
             settleProfiles();
             settled = true;
         }
@@ -502,12 +504,6 @@ public final class MirrorTrue {
                 }
             }
             return told;
-        }
-
-        private void settleSteps() {
-            for (int i = 0; i < zones - 1; i++) {
-                steps[i] = leastStep(i);
-            }
         }
 
         // The least number that serves as many readings as can be lies just LIE below one of them.
@@ -578,23 +574,18 @@ public final class MirrorTrue {
             return many;
         }
 
+        // Kinds: 0 closes, 1 is open, 2 neither.
         int howManyOf(int kind) {
             int found = 0;
             for (int k = 0; k < many; k++) {
-                if (kindOf(k) == kind) {
+                int off = offBy(k);
+                boolean closes = Math.abs(off) <= knives.lieOf() * (to[k] - from[k]);
+                int kindNow = off == NO_PROFILE ? 2 : closes ? 0 : 1;
+                if (kindNow == kind) {
                     found++;
                 }
             }
             return found;
-        }
-
-        // 0: closes, 1: open, 2: neither.
-        private int kindOf(int k) {
-            int off = offBy(k);
-            if (off == NO_PROFILE) {
-                return 2;
-            }
-            return Math.abs(off) <= knives.lieOf() * (to[k] - from[k]) ? 0 : 1;
         }
 
         int offBy(int k) {
@@ -767,7 +758,8 @@ public final class MirrorTrue {
         private final int[][] minutes = new int[TOOLS][MOST_ZONES];
         private final int[] planCosts = new int[TOOLS];
         private final int[] settledAt = new int[TOOLS];
-        // What the plan that is being worked out hangs on, but for the heights.
+        // What the plan that is being worked out hangs on.
+        private final int[] heights = new int[MOST_ZONES];
         private final int[] pulls = new int[PULLED];
         private int rest;
         private int zones;
@@ -834,29 +826,28 @@ public final class MirrorTrue {
         private void begin(int tool) {
             zones = bench.howManyZones();
             rest = bench.restOf();
+            for (int zone = 0; zone < zones; zone++) {
+                heights[zone] = bench.heightOf(zone);
+            }
             for (int d = -REACH; d <= REACH; d++) {
                 pulls[d + REACH] = bench.pullOf(tool, d);
             }
             Arrays.fill(costs, UNKNOWN);
         }
 
+        // Of several choices of the same cost the least is taken.
         private void traceMinutes(int[] row) {
             int state = 0;
             for (int zone = 0; zone < zones; zone++) {
-                row[zone] = firstOfLeastCost(zone, state);
-                state = stateBehind(state, row[zone]);
-            }
-        }
-
-        private int firstOfLeastCost(int place, int state) {
-            int least = costFrom(place, state);
-            int left = leftAt(place - REACH, state);
-            for (int chosen = 0; chosen < MOST_PLANNED; chosen++) {
-                if (costWith(place, state, chosen, left) == least) {
-                    return chosen;
+                int left = leftAt(zone - REACH, state);
+                int chosen = 0;
+                while (chosen < MOST_PLANNED
+                        && costWith(zone, state, chosen, left) > costs[zone * STATES + state]) {
+                    chosen++;
                 }
+                row[zone] = chosen;
+                state = stateBehind(state, chosen);
             }
-            return MOST_PLANNED;
         }
 
         // From a place on: the zones that do not come right by MISS each, and the minutes.
@@ -899,7 +890,7 @@ public final class MirrorTrue {
             if (zone < 0) {
                 return 0;
             }
-            int left = bench.heightOf(zone);
+            int left = heights[zone];
             int digits = state;
             for (int pulled = 1; pulled < PULLED; pulled++) {
                 left -= digits % CHOICES * pulls[pulled];
