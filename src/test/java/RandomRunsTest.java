@@ -3,6 +3,8 @@ import java.util.Random;
 /** Long runs of calls, the same for MirrorTrue and for PlainMirror: every answer must be the same. */
 public final class RandomRunsTest {
     private static final int CALLS = 512;
+    // makeSolvable, the longest of the rounds, makes so many.
+    private static final int CALLS_A_ROUND = 30;
     private static final Check check = new Check("RandomRunsTest");
     private static final int[] FAR = {Integer.MIN_VALUE, Integer.MAX_VALUE, -1000000, 1000000, -3, 99};
 
@@ -10,6 +12,7 @@ public final class RandomRunsTest {
     private final MirrorTrue x = new MirrorTrue();
     private final PlainMirror y = new PlainMirror();
     private final int size;
+    private int calls = 0;
 
     private RandomRunsTest(int seed) {
         random = new Random(seed);
@@ -17,7 +20,7 @@ public final class RandomRunsTest {
     }
 
     public static void main(String[] args) {
-        int runs = args.length > 0 ? Integer.parseInt(args[0]) : 48;
+        int runs = args.length > 0 ? Integer.parseInt(args[0]) : 60;
         for (int seed = 1; seed <= runs; seed++) {
             new RandomRunsTest(seed).run(seed);
         }
@@ -26,9 +29,9 @@ public final class RandomRunsTest {
 
     private void run(int seed) {
         int theme = seed % 6;
-        for (int k = 0; k < CALLS; k++) {
+        while (calls + CALLS_A_ROUND <= CALLS) {
             int kind = random.nextInt(10) == 0 ? random.nextInt(6) : theme;
-            String at = "seed " + seed + ", call " + k + ": ";
+            String at = "seed " + seed + ", call " + calls + ": ";
             switch (kind) {
                 case 0: discCall(at); break;
                 case 1: testCall(at); break;
@@ -59,10 +62,11 @@ public final class RandomRunsTest {
     }
 
     private int zone() {
-        return pick(0, x.count(0) - 1);
+        return pick(0, y.count(0) - 1);
     }
 
     private void same(String call, long got, long want) {
+        calls++;
         check.due(call, got, want);
     }
 
@@ -101,7 +105,7 @@ public final class RandomRunsTest {
 
     private void testCall(String at) {
         int span = new int[] {3, 12, 40, 1000}[size];
-        int i = pick(0, x.count(0) - 2);
+        int i = pick(0, y.count(0) - 2);
         switch (random.nextInt(12)) {
             case 0:
                 int lie = random.nextInt(3) > 0 ? pick(0, 3) : pick(0, 50);
@@ -125,7 +129,7 @@ public final class RandomRunsTest {
                 same(at + "wire", x.wire(from, to, told), y.wire(from, to, told));
                 break;
             case 5:
-                int which = pick(0, x.count(2) + 3);
+                int which = pick(0, y.count(2) + 3);
                 same(at + "wires " + which, x.wires(which), y.wires(which));
                 break;
             default:
@@ -168,7 +172,7 @@ public final class RandomRunsTest {
                 same(at + "undo", x.undo(), y.undo());
                 break;
             case 16: case 17:
-                int k = pick(0, x.count(3));
+                int k = pick(0, y.count(3));
                 same(at + "replay", x.replay(zone, k), y.replay(zone, k));
                 break;
             case 18: case 19:
@@ -190,7 +194,7 @@ public final class RandomRunsTest {
 
     /** Tells heights that some minutes bring right, or nearly so. */
     private void makeSolvable(String at, int tool) {
-        int n = x.count(0);
+        int n = y.count(0);
         int[] heights = new int[n];
         int[] minutes = random.ints(n, 0, 6).toArray();
         int rest = random.nextInt(2 + 4 * size);
@@ -274,7 +278,7 @@ public final class RandomRunsTest {
                 break;
             default:
                 int depth = random.nextBoolean() ? pick(1, 2000) : pick(1, 300);
-                int i = pick(-1, x.count(5) - 1);
+                int i = pick(-1, y.count(5) - 1);
                 same(at + "wets " + depth + " " + i, x.wets(depth, i), y.wets(depth, i));
                 break;
         }
