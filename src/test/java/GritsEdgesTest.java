@@ -67,6 +67,7 @@ public final class GritsEdgesTest {
         check.due("P28 FULL: 6", x.grit(1, 0), FULL);
         check.due("P28 6 stay", x.count(5), 6);
         edges.refuses("P28 FULL", Told::full, y -> y.grit(50, 0), FULL);
+        edges.refuses("P28 FULL, but for STROKES", Told::fullButForStrokes, y -> y.grit(50, 0), FULL);
         edges.refuses("P28 BAD takes, then FULL", Told::full, y -> y.grit(101, 0), BAD);
         edges.refuses("P28 BAD PITS, then FULL", Told::full, y -> y.grit(50, 201), BAD);
         x.disc(8);

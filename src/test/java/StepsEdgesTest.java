@@ -337,6 +337,7 @@ public final class StepsEdgesTest {
         }
         check.due("P12 12 at most", x.wire(0, 3, 0), FULL);
         edges.refuses("P12 FULL", Told::full, y -> y.wire(0, 4, 0), FULL);
+        edges.refuses("P12 FULL of WIRES alone", Told::fullButForStrokes, y -> y.wire(0, 4, 0), FULL);
         edges.refuses("P12 BAD v, then FULL", Told::full, y -> y.wire(0, 4, 100001), BAD);
         edges.refuses("P12 BAD i, then FULL", Told::full, y -> y.wire(4, 4, 0), BAD);
         x.disc(4);

@@ -45,6 +45,7 @@ public final class StrokesEdgesTest {
         workRoom();
         workOfNothing();
         workZoneByZone();
+        workOnEachDisc();
         check.end();
     }
 
@@ -430,6 +431,9 @@ public final class StrokesEdgesTest {
         x.pull(0, 0, 20);
         x.undo();
         check.due("P19 behind one that is UNDONE, by another PULL", x.plan(0, -1), NONE);
+        x.pull(0, 0, 5);
+        x.stroke(0, 0, 1);
+        check.due("P19 behind a STROKE by another PULL", x.plan(0, -1), 4);
         x.pull(0, 0, 10);
         x.work(0);
         check.due("P19 behind the PLAN itself", x.plan(0, -1), 0);
@@ -546,5 +550,19 @@ public final class StrokesEdgesTest {
         check.due("P21 they are STROKES to be UNDONE", x.undo(), 2);
         check.due("P21 the last one is", x.at(3), 60);
         check.due("P21 the others are not", x.at(0), 10);
+    }
+
+    private static void workOnEachDisc() {
+        MirrorTrue x = new MirrorTrue();
+        x.pull(0, 0, 10);
+        for (int n = 16; n >= 4; n--) {
+            x.disc(n);
+            for (int zone = 0; zone < n; zone++) {
+                x.height(zone, 20);
+            }
+            check.due("P21 a STROKE at each of " + n + " ZONES", x.work(0), n);
+            check.due("P21 how many then", x.count(3), n);
+            check.due("P21 the last ZONE then", x.at(n - 1), 10);
+        }
     }
 }

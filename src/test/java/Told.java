@@ -38,12 +38,27 @@ final class Told {
     /** The same with no room left: 12 wires, 60 strokes, 6 grits. */
     static void full(MirrorTrue x) {
         all(x);
-        for (int k = 3; k < 12; k++) {
-            x.wire(k % 4, 4, k);
-        }
+        nineWires(x);
         for (int k = 3; k < 60; k++) {
             x.stroke(2, k % 5, 1);
         }
+        threeGrits(x);
+    }
+
+    /** No room for WIRES and GRITS, but for STROKES. */
+    static void fullButForStrokes(MirrorTrue x) {
+        all(x);
+        nineWires(x);
+        threeGrits(x);
+    }
+
+    private static void nineWires(MirrorTrue x) {
+        for (int k = 3; k < 12; k++) {
+            x.wire(k % 4, 4, k);
+        }
+    }
+
+    private static void threeGrits(MirrorTrue x) {
         for (int k = 3; k < 6; k++) {
             x.grit(k, 1);
         }
