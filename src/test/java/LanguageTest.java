@@ -61,6 +61,19 @@ public final class LanguageTest {
         check.due("NONE", MirrorTrue.NONE, -4);
     }
 
+    /** A method stands between its head and the brace that stands as far in as the head. */
+    private static void methodLengths(String text) {
+        Matcher method = Pattern.compile("(?m)^( {4}| {8})(?! |private static final class)(.*\\) \\{)$").matcher(text);
+        int methods = 0;
+        while (method.find()) {
+            int end = text.indexOf("\n" + method.group(1) + "}", method.end());
+            long lines = text.substring(method.start(), Math.max(method.start(), end)).lines().count() + 1;
+            methods++;
+            check.holds(method.group(2) + " has some sixty lines at most, not " + lines, end > 0 && lines <= 60);
+        }
+        check.holds("methods are found: " + methods, methods > 100);
+    }
+
     private static void classes() {
         Class<?>[] inside = MirrorTrue.class.getDeclaredClasses();
         check.holds("some twelve classes at most", inside.length < 12);
@@ -99,6 +112,7 @@ public final class LanguageTest {
             check.holds("made once for an object: " + line.trim(),
                     !line.contains("new ") || line.trim().startsWith("private final "));
         }
+        methodLengths(text);
         Matcher library = Pattern.compile("\\b(Arrays|Math|Integer|Long|System)\\.(\\w+)").matcher(text);
         while (library.find()) {
             check.holds(library.group() + " is listed", List.of("Arrays.fill", "Math.abs", "Math.min",
